@@ -26,6 +26,7 @@ public final class PromiseTest {
         doAllErrors();
         undo();
         keepAndRestore();
+        restoreOtherBoats();
         cellOf();
         boatOf();
         tide();
@@ -36,6 +37,7 @@ public final class PromiseTest {
         homeIn();
         homeInOnRocks();
         homeInAtTheEnd();
+        homeInAgain();
         inDanger();
         best();
         bestOfNearest();
@@ -173,6 +175,8 @@ public final class PromiseTest {
         }
         TideBoats x = new TideBoats();
         C.due("4: which 4", x.set(4, 1), TideBoats.BAD_VALUE);
+        C.due("4: which 4, 0", x.set(4, 0), TideBoats.BAD_VALUE);
+        C.due("4: which -1, 0", x.set(-1, 0), TideBoats.BAD_VALUE);
         for (int wrong : OUTSIDE) {
             C.due("4: which", x.set(wrong, 1), TideBoats.BAD_VALUE);
             C.due("4: value", x.set(1, wrong), TideBoats.BAD_VALUE);
@@ -559,6 +563,43 @@ public final class PromiseTest {
         y.sand(5, 2, false);
         C.due("13: again", y.restore(), 0);
         C.due("13: the snapshot is its own", y.cellOf(5, 0), 1);
+    }
+
+    private static void restoreOtherBoats() {
+        TideBoats x = deep();
+        x.boat(1, 2, 14);
+        x.pause();
+        x.move(0, LEFT, 2);
+        x.keep();
+        x.undo();
+        x.undo();
+        x.undo();
+        C.due("13: another boat", x.boat(0, 3, 20), 0);
+        C.due("13: its player", x.boatOf(0, 0), 0);
+        C.due("13: its steps", x.boatOf(0, 5), 0);
+        C.due("13: turn", x.restore(), 2);
+        int[] due = {1, 2, 0, 12, 1, 2};
+        for (int what = 0; what < due.length; what++) {
+            C.due("13: the boat of the snapshot, " + what, x.boatOf(0, what), due[what]);
+        }
+        x.undo();
+        int[] other = {0, 3, 0, 20, 1, 0};
+        for (int what = 0; what < other.length; what++) {
+            C.due("11: the boat from before, " + what, x.boatOf(0, what), other[what]);
+        }
+    }
+
+    /** What homeIn tells is of the board as it is now, not as it was when it was asked before. */
+    private static void homeInAgain() {
+        TideBoats x = new TideBoats();
+        x.boat(0, 1, 29);
+        bothHome("21: flat", x, 0, 3);
+        x.sand(29, 0, true);
+        bothHome("21: deeper", x, 0, 1);
+        x.sand(29, 4, true);
+        bothHome("21: higher", x, 0, TideBoats.NONE);
+        x.undo();
+        bothHome("21: deeper again", x, 0, 1);
     }
 
     private static void cellOf() {
