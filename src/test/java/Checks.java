@@ -28,6 +28,10 @@ final class Checks {
         return wrong;
     }
 
+    int looked() {
+        return looked;
+    }
+
     void end() {
         System.out.println(looked + " answers looked at, " + wrong + " of them not as due");
         if (wrong != 0 || looked == 0) {

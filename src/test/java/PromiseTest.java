@@ -1,11 +1,5 @@
 /** What the document says, promise by promise, on small boards worked out by hand. */
-public final class PromiseTest {
-    private static final int RIGHT = 0;
-    private static final int DOWN = 1;
-    private static final int LEFT = 2;
-    private static final int UP = 3;
-    private static final int[] OUTSIDE = {Integer.MIN_VALUE, Integer.MIN_VALUE + 1, -1, Integer.MAX_VALUE};
-
+public final class PromiseTest extends Boards {
     private static final Checks C = new Checks();
 
     public static void main(String[] args) {
@@ -42,29 +36,6 @@ public final class PromiseTest {
         best();
         bestOfNearest();
         C.end();
-    }
-
-    /** All sands 0, low water 3: all boats float everywhere, always. */
-    private static TideBoats deep() {
-        TideBoats x = new TideBoats();
-        x.set(0, 3);
-        for (int cell = 0; cell < 36; cell++) {
-            x.sand(cell, 0, false);
-        }
-        return x;
-    }
-
-    private static void write(TideBoats x, String text) {
-        x.clearText();
-        for (int i = 0; i < text.length(); i++) {
-            x.type(text.charAt(i));
-        }
-    }
-
-    private static void pauses(TideBoats x, int times) {
-        for (int i = 0; i < times; i++) {
-            x.pause();
-        }
     }
 
     private static void newObject() {
@@ -296,15 +267,6 @@ public final class PromiseTest {
         pauses(y, 2);
         C.due("5: home as the water is there", y.move(0, RIGHT, 1), 0);
         C.due("5: over then", y.count(11), 1);
-    }
-
-    /** The tide 1, 2, 1, 2 ..: what stands on a rock at 2 is wrecked at 1. */
-    private static TideBoats reef() {
-        TideBoats x = new TideBoats();
-        x.set(1, 1);
-        x.sand(14, 1, true);
-        x.sand(15, 0, true);
-        return x;
     }
 
     private static void moveWrecks() {
@@ -843,10 +805,7 @@ public final class PromiseTest {
         bothHome("21: in the other's turn", x, 1, 4);
         bothHome("21: in its turn", x, 3, 1);
 
-        TideBoats y = new TideBoats();
-        for (int cell = 1; cell < 35; cell++) {
-            y.sand(cell, 4, false);
-        }
+        TideBoats y = flat(4);
         y.sand(34, 0, false);
         y.boat(0, 2, 34);
         y.boat(1, 1, 20);
@@ -856,10 +815,7 @@ public final class PromiseTest {
 
     /** One way home, of which the last cell but one is a rock with water only in some turns. */
     private static void homeInOnRocks() {
-        TideBoats x = new TideBoats();
-        for (int cell = 1; cell < 35; cell++) {
-            x.sand(cell, 4, false);
-        }
+        TideBoats x = flat(4);
         x.set(0, 0);
         x.set(1, 4);
         x.sand(34, 3, true);
@@ -1000,19 +956,13 @@ public final class PromiseTest {
         y.boat(0, 1, 29 - 6 - 1);
         C.due("23: of boats with the same turns, the lowest", y.best(), 2);
 
-        TideBoats z = new TideBoats();
-        for (int cell = 1; cell < 35; cell++) {
-            z.sand(cell, 4, false);
-        }
+        TideBoats z = flat(4);
         z.sand(34, 1, true);
         z.sand(33, 0, false);
         z.boat(0, 1, 33);
         C.due("23: no water yet", z.best(), TideBoats.NONE);
 
-        TideBoats w = new TideBoats();
-        for (int cell = 1; cell < 35; cell++) {
-            w.sand(cell, 4, false);
-        }
+        TideBoats w = flat(4);
         w.set(1, 1);
         for (int cell = 1; cell <= 4; cell++) {
             w.sand(cell, 1, cell == 3);
@@ -1022,10 +972,7 @@ public final class PromiseTest {
         w.pause();
         C.due("23: not onto the rock", w.best(), 22);
 
-        TideBoats v = new TideBoats();
-        for (int cell = 1; cell < 35; cell++) {
-            v.sand(cell, 4, false);
-        }
+        TideBoats v = flat(4);
         v.set(1, 1);
         for (int cell = 1; cell <= 5; cell++) {
             v.sand(cell, 1, cell < 5);
