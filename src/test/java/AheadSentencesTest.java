@@ -220,6 +220,32 @@ public final class AheadSentencesTest extends Sentences {
             x.pause();
             home("behind the turn 3", x, 0, 6);
         });
+        says(21, "its player moved it in each of its turns as well as can be, or waited", () -> {
+            // Steps of 2 turns: it goes to and fro in deep water, up to the turn 7 with water on the bar.
+            TideBoats x = channel(4, 0);
+            x.set(2, 2);
+            x.sand(1, 3, false);
+            x.sand(2, 3, false);
+            x.boat(1, 1, 4);
+            home("behind a bar", x, 0, 8);
+            x.pause();
+            home("the same a turn later", x, 0, 7);
+            pauses(x, 7);
+            home("behind that turn", x, 0, 12);
+        });
+        says(21, "Tells in how many turns from now on a boat could be home", () -> {
+            TideBoats x = channel(1, 1);
+            x.boat(1, 1, 1);
+            home("on the sand 1", x, 0, 2);
+            x.sand(1, 3, false);
+            home("on the sand 3", x, 0, 4);
+            x.sand(1, 0, false);
+            home("on the sand 0", x, 0, 2);
+            x.sand(1, 4, true);
+            home("on the sand 4", x, 0, NONE);
+            x.undo();
+            home("on the sand 0 again", x, 0, 2);
+        });
         says(21, "if no other boat was there", () -> {
             TideBoats x = channel(5, 0);
             x.boat(1, 1, 5);
@@ -651,6 +677,13 @@ public final class AheadSentencesTest extends Sentences {
             y.pause();
             due("moves onto rocks alone", y.count(12), 4);
             due("none of them", y.best(), NONE);
+            // Draft 1 on the sand 2: afloat in the turns 2, 3 and 4.
+            TideBoats v = channel(5, 2);
+            v.sand(2, 2, true);
+            v.sand(3, 2, true);
+            v.boat(1, 1, 5);
+            pauses(v, 3);
+            due("not onto a rock that has water for one more turn", v.best(), 21);
             TideBoats z = channel(5, 1);
             z.set(1, 1);
             z.boat(1, 1, 5);
