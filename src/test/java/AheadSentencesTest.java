@@ -234,17 +234,17 @@ public final class AheadSentencesTest extends Sentences {
             home("behind that turn", x, 0, 12);
         });
         says(21, "Tells in how many turns from now on a boat could be home", () -> {
-            TideBoats x = channel(1, 1);
-            x.boat(1, 1, 1);
-            home("on the sand 1", x, 0, 2);
-            x.sand(1, 3, false);
-            home("on the sand 3", x, 0, 4);
-            x.sand(1, 0, false);
-            home("on the sand 0", x, 0, 2);
-            x.sand(1, 4, true);
+            TideBoats x = flat(4);
+            x.boat(0, 1, 34);
             home("on the sand 4", x, 0, NONE);
+            x.sand(34, 1, false);
+            home("on the sand 1", x, 0, 3);
+            x.sand(34, 0, false);
+            home("on the sand 0", x, 0, 1);
+            x.sand(34, 4, true);
+            home("on a rock that is too high", x, 0, NONE);
             x.undo();
-            home("on the sand 0 again", x, 0, 2);
+            home("on the sand 0 again", x, 0, 1);
         });
         says(21, "if no other boat was there", () -> {
             TideBoats x = channel(5, 0);
