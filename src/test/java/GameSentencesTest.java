@@ -150,7 +150,7 @@ public final class GameSentencesTest extends Sentences {
         says(17, "5 the way leads off the board, over its own harbour, or into the other harbour", () -> {
             for (int player = 0; player < 2; player++) {
                 for (int cell = 1; cell < 35; cell++) {
-                    TideBoats x = later(cell, player);
+                    TideBoats x = inItsTurn(cell, player);
                     for (int i = 0; i < 12; i++) {
                         int steps = 1 + i % 3;
                         due("from " + cell + " by " + i / 3 + ", " + steps, x.why(0, i / 3, steps),
@@ -167,7 +167,8 @@ public final class GameSentencesTest extends Sentences {
         return x;
     }
 
-    private static TideBoats later(int cell, int player) {
+    /** One boat in deep water, in the first turn of its player. */
+    private static TideBoats inItsTurn(int cell, int player) {
         return later(() -> oneBoat(player, cell), player);
     }
 
@@ -265,7 +266,7 @@ public final class GameSentencesTest extends Sentences {
             int[][] directions = {{RIGHT, DOWN}, {LEFT, UP}};
             for (int player = 0; player < 2; player++) {
                 for (int i = 0; i < 6; i++) {
-                    TideBoats x = later(cells[player][i], player);
+                    TideBoats x = inItsTurn(cells[player][i], player);
                     int direction = directions[player][i / 3];
                     due("way home from " + cells[player][i], x.move(0, direction, 1 + i % 3), 0);
                     due("how it is", x.boatOf(0, 2), HOME);
@@ -303,13 +304,13 @@ public final class GameSentencesTest extends Sentences {
         says(5, "it stops there; it cannot go farther in this move", () -> {
             for (int steps = 2; steps <= 3; steps++) {
                 int far = steps;
-                refused("from 34", () -> later(34, 0), y -> y.move(0, RIGHT, far), -15);
-                refused("from 29", () -> later(29, 0), y -> y.move(0, DOWN, far), -15);
-                refused("from 1", () -> later(1, 1), y -> y.move(0, LEFT, far), -15);
-                refused("from 6", () -> later(6, 1), y -> y.move(0, UP, far), -15);
+                refused("from 34", () -> inItsTurn(34, 0), y -> y.move(0, RIGHT, far), -15);
+                refused("from 29", () -> inItsTurn(29, 0), y -> y.move(0, DOWN, far), -15);
+                refused("from 1", () -> inItsTurn(1, 1), y -> y.move(0, LEFT, far), -15);
+                refused("from 6", () -> inItsTurn(6, 1), y -> y.move(0, UP, far), -15);
             }
-            refused("from 33", () -> later(33, 0), y -> y.move(0, RIGHT, 3), -15);
-            refused("from 12", () -> later(12, 1), y -> y.move(0, UP, 3), -15);
+            refused("from 33", () -> inItsTurn(33, 0), y -> y.move(0, RIGHT, 3), -15);
+            refused("from 12", () -> inItsTurn(12, 1), y -> y.move(0, UP, 3), -15);
         });
         says(5, "The harbour of the other player cannot be entered.", () -> {
             int[][] cells = {{1, 2, 3, 6, 12, 18}, {34, 33, 32, 29, 23, 17}};
@@ -319,9 +320,9 @@ public final class GameSentencesTest extends Sentences {
                 int cell = cells[player][i % 6];
                 int direction = directions[player][i % 6 / 3];
                 int steps = 1 + i % 3;
-                refused("from " + cell, () -> later(cell, player), y -> y.move(0, direction, steps), -15);
+                refused("from " + cell, () -> inItsTurn(cell, player), y -> y.move(0, direction, steps), -15);
                 if (steps > 1) {
-                    due("up to it from " + cell, later(cell, player).move(0, direction, steps - 1), 0);
+                    due("up to it from " + cell, inItsTurn(cell, player).move(0, direction, steps - 1), 0);
                 }
             }
         });
@@ -490,7 +491,7 @@ public final class GameSentencesTest extends Sentences {
     }
 
     private static TideBoats allHome() {
-        TideBoats x = later(34, 0);
+        TideBoats x = inItsTurn(34, 0);
         x.move(0, RIGHT, 1);
         return x;
     }
@@ -513,7 +514,7 @@ public final class GameSentencesTest extends Sentences {
             refused("direction ahead of 2", () -> later(GameSentencesTest::pairAndHome, 1), y -> y.move(2, -1, 1), BAD_VALUE);
             refused("steps ahead of 3", Boards::pair, y -> y.move(1, UP, 4), BAD_VALUE);
             refused("steps ahead of 4", () -> shallowBoat(2), y -> y.move(0, UP, 4), BAD_VALUE);
-            refused("steps ahead of 5", () -> later(6, 0), y -> y.move(0, LEFT, 4), BAD_VALUE);
+            refused("steps ahead of 5", () -> inItsTurn(6, 0), y -> y.move(0, LEFT, 4), BAD_VALUE);
             refused("direction ahead of 6", () -> shallow(0, 1, 14), y -> y.move(0, 4, 1), BAD_VALUE);
         });
     }
@@ -523,7 +524,7 @@ public final class GameSentencesTest extends Sentences {
             act("pause", Boards::pair, TideBoats::pause, 4);
             act("pause of the player 1", () -> later(Boards::pair, 1), TideBoats::pause, 5);
             act("pause that wrecks", GameSentencesTest::besideTheRock, TideBoats::pause, 1);
-            TideBoats x = later(14, 0);
+            TideBoats x = inItsTurn(14, 0);
             due("a wait of the player 0", x.pause(), 4);
             due("a wait of a player without boats", x.pause(), 5);
             due("whose turn", x.count(1), 0);
@@ -630,7 +631,7 @@ public final class GameSentencesTest extends Sentences {
         says(17, "0 if it can", () -> {
             told("a move", Boards::pair, y -> y.why(0, RIGHT, 3), 0);
             told("a ram", () -> shallow(1, 2, 14), y -> y.why(0, RIGHT, 1), 0);
-            told("home", () -> later(34, 0), y -> y.why(0, RIGHT, 1), 0);
+            told("home", () -> inItsTurn(34, 0), y -> y.why(0, RIGHT, 1), 0);
             told("onto a rock as the water goes", GameSentencesTest::besideTheRock, y -> y.why(0, RIGHT, 1), 0);
         });
         says(17, "3 it is the other player's turn", () -> {
@@ -640,9 +641,9 @@ public final class GameSentencesTest extends Sentences {
         });
         says(17, "4 it is aground", () -> {
             for (int draft = 1; draft <= 3; draft++) {
-                int deep = draft;
-                told("so much water", () -> oneHigher(deep, 13, 3 - deep), y -> y.why(0, RIGHT, 1), 0);
-                told("1 less", () -> oneHigher(deep, 13, 3 - deep + 1), y -> y.why(0, RIGHT, 1), 4);
+                int own = draft;
+                told("so much water", () -> oneHigher(own, 13, 3 - own), y -> y.why(0, RIGHT, 1), 0);
+                told("1 less", () -> oneHigher(own, 13, 3 - own + 1), y -> y.why(0, RIGHT, 1), 4);
             }
             TideBoats x = new TideBoats();
             x.sand(14, 4, false);
