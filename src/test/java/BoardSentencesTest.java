@@ -6,6 +6,7 @@ public final class BoardSentencesTest extends Sentences {
 
     public static void main(String[] args) {
         newObject();
+        cells();
         sandArguments();
         sandAnswers();
         sandOrder();
@@ -59,6 +60,41 @@ public final class BoardSentencesTest extends Sentences {
             due("states", new TideBoats().count(13), 0));
         says(1, "There is one snapshot, empty at first.", () ->
             refused("restore", TideBoats::new, TideBoats::restore, NONE));
+    }
+
+    private static void cells() {
+        says(2, "The board has 36 cells", () -> {
+            int cells = 0;
+            for (int cell = -50; cell <= 50; cell++) {
+                TideBoats x = new TideBoats();
+                boolean isCell = x.cellOf(cell, 0) != UNKNOWN;
+                cells += isCell ? 1 : 0;
+                due("sand in " + cell, x.sand(cell, 2, true) != UNKNOWN ? 1 : 0, isCell ? 1 : 0);
+                due("a boat in " + cell, x.boat(0, 1, cell) != UNKNOWN ? 1 : 0, isCell ? 1 : 0);
+                due("a share for " + cell, x.afloat(cell, 1) != -1.0f ? 1 : 0, isCell ? 1 : 0);
+            }
+            due("cells", cells, 36);
+        });
+        says(2, "Gives a cell another height and a rock, or none.", () -> {
+            TideBoats x = new TideBoats();
+            for (int height : new int[] {4, 0, 2}) {
+                for (boolean rock : new boolean[] {true, false}) {
+                    x.sand(7, height, rock);
+                    due("height", x.cellOf(7, 0), height);
+                    due("rock", x.cellOf(7, 1), rock ? 1 : 0);
+                    due("sand in other cells", sandIn(x) - height, 33);
+                }
+            }
+        });
+    }
+
+    /** All heights together. */
+    private static int sandIn(TideBoats x) {
+        int sand = 0;
+        for (int cell = 0; cell < 36; cell++) {
+            sand += x.cellOf(cell, 0);
+        }
+        return sand;
     }
 
     private static void sandArguments() {

@@ -4,6 +4,8 @@ import java.util.function.ToIntFunction;
 public final class ErrorSentencesTest extends Sentences {
     public static void main(String[] args) {
         constants();
+        severalErrors();
+        severalErrorsOfMoves();
         noneIsNoError();
         errorsChangeNothing();
         noneChangesNothing();
@@ -57,6 +59,49 @@ public final class ErrorSentencesTest extends Sentences {
         x.pause();
         write(x, "w;0r1;a1=0");
         return x;
+    }
+
+    private static void severalErrors() {
+        says(1, "Where several errors can apply, the order of the @return line is the order of the checks.", () -> {
+            // The turn is 4: that forbids the sand, the boat and the setting too.
+            unchanged("sand: cell, height and turn", y -> y.sand(36, 5, true), UNKNOWN);
+            unchanged("sand: height, harbour and turn", y -> y.sand(0, 5, true), BAD_VALUE);
+            unchanged("sand: turn, and as it is", y -> y.sand(9, 3, true), NOT_POSSIBLE);
+            unchanged("boat: player, draft, harbour and turn", y -> y.boat(2, 0, 0), UNKNOWN);
+            unchanged("boat: cell, draft and turn", y -> y.boat(1, 4, 36), UNKNOWN);
+            unchanged("boat: draft, harbour and turn", y -> y.boat(1, 4, 0), BAD_VALUE);
+            unchanged("set: which, value and turn", y -> y.set(4, 100), BAD_VALUE);
+            unchanged("set: value and turn", y -> y.set(3, 9), BAD_VALUE);
+            unchanged("set: turn, and as it is", y -> y.set(3, 60), NOT_POSSIBLE);
+            unchanged("cellOf: cell and what", y -> y.cellOf(36, 4), UNKNOWN);
+            unchanged("boatOf: boat and what", y -> y.boatOf(4, 7), UNKNOWN);
+            unchanged("homeIn: boat and way", y -> y.homeIn(4, 2), UNKNOWN);
+            unchanged("homeIn: way, and wrecked", y -> y.homeIn(3, 2), BAD_VALUE);
+            unchanged("homeIn: wrecked, and never home", y -> y.homeIn(3, 1), NOT_POSSIBLE);
+            refused("best: over, and no move", TideBoats::new, TideBoats::best, NOT_POSSIBLE);
+        });
+    }
+
+    private static void severalErrorsOfMoves() {
+        says(5, "Where several errors can apply, the order of the @return line is the order of the checks.", () -> {
+            unchanged("boat, direction and steps", y -> y.move(4, 4, 4), UNKNOWN);
+            unchanged("direction, and wrecked", y -> y.move(3, 4, 1), BAD_VALUE);
+            unchanged("steps, and home", y -> y.move(2, LEFT, 4), BAD_VALUE);
+        });
+        says(17, "Where several errors can apply, the order of the @return line is the order of the checks.", () -> {
+            unchanged("boat, direction and steps", y -> y.why(4, 4, 4), UNKNOWN);
+            unchanged("direction, and wrecked", y -> y.why(3, -1, 1), BAD_VALUE);
+            unchanged("steps, and home", y -> y.why(2, LEFT, 0), BAD_VALUE);
+        });
+        says(10, "Where several errors can apply, the order of the @return line is the order of the checks.", () -> {
+            TideBoats x = game();
+            write(x, "9r1;a1=0;x");
+            due("a fault behind orders that cannot be done", x.doAll(), -109);
+            write(x, "9r1;a1=0;w");
+            due("the first of two errors", x.doAll(), UNKNOWN);
+            write(x, "a1=0;9r1;w");
+            due("the first of them the other way round", x.doAll(), NOT_POSSIBLE);
+        });
     }
 
     private static void noneIsNoError() {
@@ -152,6 +197,16 @@ public final class ErrorSentencesTest extends Sentences {
     }
 
     private static void manyCalls() {
+        says(11, "An object is used for at most 512 calls after it has been made", () -> {
+            TideBoats x = new TideBoats();
+            for (int call = 1; call <= 507; call++) {
+                due("call " + call, x.sand(7, call % 2 == 1 ? 4 : 2, false), call == 1 ? 1 : call % 2 == 1 ? 2 : 4);
+            }
+            for (int left = 3; left >= 0; left--) {
+                due("undo", x.undo(), left);
+            }
+            due("the call 512", x.cellOf(7, 0), 4);
+        });
         says(23, "Finds the best move of the player whose turn it is", () -> {
             TideBoats x = deep();
             for (int boat = 0; boat < 10; boat++) {

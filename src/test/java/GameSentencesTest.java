@@ -627,7 +627,31 @@ public final class GameSentencesTest extends Sentences {
         });
     }
 
+    /** Each boat's moves, each on a board of its own: what move() answers goes with what why() tells. */
+    private static void moveIsAsWhy(String what, Supplier<TideBoats> board) {
+        for (int boat = 0; boat < board.get().count(5); boat++) {
+            for (int direction = 0; direction < 4; direction++) {
+                for (int steps = 1; steps <= 3; steps++) {
+                    TideBoats x = board.get();
+                    int reason = x.why(boat, direction, steps);
+                    int answer = x.move(boat, direction, steps);
+                    String call = what + ", boat " + boat + " " + direction + " by " + steps;
+                    due(call, answer < 0 ? answer : 0, reason == 0 ? 0 : -10 - reason);
+                }
+            }
+        }
+    }
+
     private static void whyReasons() {
+        says(17, "Tells why a boat cannot be moved so.", () -> {
+            moveIsAsWhy("two boats", Boards::pair);
+            moveIsAsWhy("two boats, the other turn", () -> later(Boards::pair, 1));
+            moveIsAsWhy("over", Boards::pairAtTheEnd);
+            moveIsAsWhy("home and rammed", Boards::fates);
+            moveIsAsWhy("home and rammed, later", () -> later(Boards::fates, 1));
+            moveIsAsWhy("beside one that it can ram", () -> shallow(1, 2, 14));
+            moveIsAsWhy("beside one of its own", () -> shallow(0, 2, 14));
+        });
         says(17, "0 if it can", () -> {
             told("a move", Boards::pair, y -> y.why(0, RIGHT, 3), 0);
             told("a ram", () -> shallow(1, 2, 14), y -> y.why(0, RIGHT, 1), 0);

@@ -14,11 +14,11 @@ abstract class Sentences extends Boards {
     private static String heading = "";
     private static int tests;
 
-    /** A sentence of a promise, or of the terms that the promise rests on, and what it asks. */
+    /** A sentence of a promise, or of what the promise rests on ahead of it, and what it asks. */
     static void says(int promise, String sentence, Runnable test) {
         heading = promise + " \"" + sentence + "\": ";
         boolean isThere = part("## Promise " + promise + ":").contains(sentence)
-            || part("## Terms").contains(sentence);
+            || part("## Terms").contains(sentence) || part("## What it is").contains(sentence);
         CHECKS.due(heading + "is in the document", isThere ? 1 : 0, 1);
         int before = CHECKS.looked();
         test.run();

@@ -6,6 +6,7 @@ public final class ToldSentencesTest extends Sentences {
         cellBoats();
         boatArguments();
         boatNumbers();
+        boatsAground();
         boatsNotOnBoard();
         boatMoves();
         tideArguments();
@@ -186,6 +187,25 @@ public final class ToldSentencesTest extends Sentences {
             due("steps behind no move", x.boatOf(0, 5), 5);
             x.undo();
             due("steps behind an undo", x.boatOf(0, 5), 3);
+        });
+    }
+
+    private static void boatsAground() {
+        says(15, "floats in a turn if the water over its cell is its draft or more, otherwise it is aground", () -> {
+            for (int height = 0; height <= 4; height++) {
+                for (int draft = 1; draft <= 3; draft++) {
+                    TideBoats x = flat(0);
+                    x.sand(14, height, false);
+                    x.boat(0, draft, 14);
+                    for (int turn = 0; turn <= 6; turn++) {
+                        boolean floats = x.tide(turn) - height >= draft;
+                        due("floats in " + turn, x.boatOf(0, 4), floats ? 1 : 0);
+                        due("aground in " + turn, x.count(9), floats ? 0 : 1);
+                        due("why in " + turn, x.why(0, RIGHT, 1), turn % 2 == 1 ? 3 : floats ? 0 : 4);
+                        x.pause();
+                    }
+                }
+            }
         });
     }
 
@@ -515,7 +535,20 @@ public final class ToldSentencesTest extends Sentences {
                 }
             }
         });
-        says(19, "divided by all of them, as a float", () -> {
+        says(19, "Tells for what share of the turns of a tide a draft floats over a cell.", () -> {
+            for (int setting = 0; setting < 48; setting++) {
+                TideBoats x = settings(setting % 4, 1 + setting / 4 % 4, 1 + setting / 16);
+                int all = 2 * x.count(16) * x.count(17);
+                x.boat(0, 2, 7);
+                int floats = 0;
+                for (int turn = 0; turn < all; turn++) {
+                    floats += x.boatOf(0, 4);
+                    x.pause();
+                }
+                dueFloat("as the boat there floats", x.afloat(7, 2), (float) floats / (float) all);
+            }
+        });
+        says(19, ", as a float, divided by all of them, as a float", () -> {
             TideBoats x = settings(0, 4, 3);
             x.boat(0, 1, 7);
             x.sand(7, 0, false);
